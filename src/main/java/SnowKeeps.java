@@ -48,7 +48,8 @@ public final class SnowKeeps {
     private final Wander wander = new Wander();
     private final Sign sign = new Sign();
     private final Unlike unlike = new Unlike();
-    private final int[] times = new int[MOST_WAYS];
+    /** How often each WAY is there, of the PRINTS whose ROWS are asked. */
+    private final int[] bag = new int[MOST_WAYS];
     /** The row that the latest search for a BLUR found. */
     private final int[] blurRow = new int[Wander.DEEPEST];
     private int blurSteps = 0;
@@ -745,23 +746,23 @@ public final class SnowKeeps {
         if (now.kept > most) {
             return false;
         }
-        Arrays.fill(times, 0);
+        Arrays.fill(bag, 0);
         for (int k = 0; k < now.kept; k++) {
             int way = now.wayKept(k);
             if (way >= 0 && way < MOST_WAYS) {
-                times[way]++;
+                bag[way]++;
             }
         }
-        trails.load(now.plain, times);
+        trails.load(now.plain, bag);
         return true;
     }
 
     private boolean isTheOnlyRow(int p) {
-        Arrays.fill(times, 0);
+        Arrays.fill(bag, 0);
         for (int m = 1; m <= wander.depth; m++) {
-            times[wander.ways[m]]++;
+            bag[wander.ways[m]]++;
         }
-        trails.load(now.plain, times);
+        trails.load(now.plain, bag);
         return trails.comeFrom(p) == 1;
     }
 
@@ -1731,7 +1732,7 @@ public final class SnowKeeps {
         }
     }
 
-    /** Unlike sets of WAYS, as many as are asked for and a few more. */
+    /** Unlike sets of WAYS, with room for twice as many as are counted at most. */
     private static final class Unlike {
         private static final int ROOM = 4096;
         int size = 0;
