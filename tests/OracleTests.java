@@ -525,17 +525,6 @@ public final class OracleTests {
         return b.toString();
     }
 
-    private static void feed(SnowKeeps s, String text) {
-        byte[] bytes = new byte[(text.length() + 19) / 20 * 20];
-        Arrays.fill(bytes, (byte) ' ');
-        for (int i = 0; i < text.length(); i++) bytes[i] = (byte) text.charAt(i);
-        for (int i = 0; i < bytes.length; i += 20) {
-            int[] v = new int[5];
-            for (int j = 0; j < 20; j++) v[j / 4] = v[j / 4] << 8 | bytes[i + j] & 255;
-            s.feed(v[0], v[1], v[2], v[3], v[4]);
-        }
-    }
-
     /** Asks all that asking does not change. */
     private static void compare(SnowKeeps s, Model m, String told) {
         due("count(5)", s.count(5), m.prints.size(), told);
@@ -790,7 +779,7 @@ public final class OracleTests {
         Model m = new Model();
         String text = randomText(m, number % 3 == 0 ? 60 : 22);
         String told = number + ": " + text.replace('\n', ' ');
-        feed(s, text);
+        Kit.feed(s, text);
         due("plain", s.plain(text.length()), m.lines, told);
         due("fault(0)", s.fault(0), 0, told);
         Model[] images = new Model[3];

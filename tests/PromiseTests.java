@@ -10,8 +10,6 @@ public final class PromiseTests {
     private static final Class<?> ARGUMENT = IllegalArgumentException.class;
     private static final Class<?> STATE = IllegalStateException.class;
     private static final Class<?> BOUNDS = IndexOutOfBoundsException.class;
-    /** Four places in a ring, two walkers, five prints kept. */
-    private static final String RING = "places 4;path 0 1;path 1 2;path 2 3;path 3 0;walker 0;walker 2;keep 5;";
 
     private static int wrong = 0;
     private static int promise = 0;
@@ -43,48 +41,6 @@ public final class PromiseTests {
     private static void miss(String what) {
         wrong++;
         System.out.println("promise " + promise + ": " + what);
-    }
-
-    private static void feed(SnowKeeps s, String text) {
-        for (int i = 0; i < text.length(); i += 20) {
-            int[] v = new int[5];
-            for (int j = 0; j < 20; j++) {
-                int sign = i + j < text.length() ? text.charAt(i + j) : ' ';
-                v[j / 4] = v[j / 4] << 8 | sign & 255;
-            }
-            s.feed(v[0], v[1], v[2], v[3], v[4]);
-        }
-    }
-
-    private static int tell(SnowKeeps s, String text) {
-        feed(s, text);
-        return s.plain(text.length());
-    }
-
-    private static SnowKeeps of(String text) {
-        SnowKeeps s = new SnowKeeps();
-        if (tell(s, text) < 0) {
-            miss("a fault in " + text);
-        }
-        return s;
-    }
-
-    /** The ring behind the steps 0>1 by walker 0, 2>3 by walker 1, then 1>2, 2>3 by 0, 3>0 by 1. */
-    private static SnowKeeps walked() {
-        SnowKeeps s = of(RING);
-        s.step(0, 1);
-        s.step(1, 3);
-        s.step(0, 2);
-        s.step(0, 3);
-        s.step(1, 0);
-        return s;
-    }
-
-    private static void fill(SnowKeeps s, int tray, int sort, long... numbers) {
-        s.tray(tray, sort, numbers.length);
-        for (int i = 0; i < numbers.length; i++) {
-            s.write(tray, i, numbers[i]);
-        }
     }
 
     private static void at(int number) {
@@ -123,19 +79,19 @@ public final class PromiseTests {
         due(9, () -> order.fault(1), "the highest byte comes first");
         at(3);
         SnowKeeps told = new SnowKeeps();
-        due(8, () -> tell(told, RING), "eight lines");
+        due(8, () -> Kit.tell(told, Kit.RING), "eight lines");
         due(0, () -> told.count(7), "the tape is empty then");
         told.step(0, 1);
-        due(-13, () -> tell(told, "places 11;"), "a fault");
+        due(-13, () -> Kit.tell(told, "places 11;"), "a fault");
         due(0, () -> told.count(7), "the tape is empty behind a fault");
         due(1, () -> told.count(5), "all else stays");
         due(4, () -> told.count(1), "all else stays, places");
-        due(1, () -> tell(told, "places 2;"), "another plain");
+        due(1, () -> Kit.tell(told, "places 2;"), "another plain");
         due(0, () -> told.count(5), "fresh snow");
         due(0, () -> told.count(6), "no steps");
         due(0, () -> told.wolves(), "wolves forget");
         due(20, () -> told.count(4), "KEEP is 20 again");
-        feed(told, "places 2;");
+        Kit.feed(told, "places 2;");
         dueThrow(ARGUMENT, () -> told.plain(21), "more than the tape has");
         dueThrow(ARGUMENT, () -> told.plain(-1), "below 0");
         due(20, () -> told.count(7), "a throw changes nothing");
@@ -148,13 +104,13 @@ public final class PromiseTests {
         due(-1, () -> told.fault(-1), "another what below");
         due(0, () -> fresh.fault(0), "none at first");
         due(-1, () -> fresh.fault(1), "no place at first");
-        tell(told, "places 2;");
+        Kit.tell(told, "places 2;");
         due(0, () -> told.fault(0), "none behind a good text");
         due(-1, () -> told.fault(1), "no place behind a good text");
     }
 
     private static void pathsAndWalkers() {
-        SnowKeeps s = walked();
+        SnowKeeps s = Kit.walked();
         at(5);
         due(3, () -> s.path(3, 0), "first");
         due(0, () -> s.path(3, 1), "second");
@@ -165,7 +121,7 @@ public final class PromiseTests {
         dueThrow(ARGUMENT, () -> s.path(0, 4), "another what");
         dueThrow(ARGUMENT, () -> s.path(0, -1), "another what below");
         at(6);
-        SnowKeeps island = of("places 5;path 0 1;path 2 1;path 3 2;");
+        SnowKeeps island = Kit.of("places 5;path 0 1;path 2 1;path 3 2;");
         due(3, () -> island.distance(0, 3), "along three");
         due(3, () -> island.distance(3, 0), "either way");
         due(0, () -> island.distance(4, 4), "to itself");
@@ -177,7 +133,7 @@ public final class PromiseTests {
         due(2, () -> s.walker(1, 1), "steps");
         due(3, () -> s.walker(0, 2), "prints");
         due(2, () -> s.walker(1, 3), "from where");
-        due(-1, () -> of(RING).walker(1, 3), "no print");
+        due(-1, () -> Kit.of(Kit.RING).walker(1, 3), "no print");
         dueThrow(NO_SUCH, () -> s.walker(2, 9), "no walker");
         dueThrow(NO_SUCH, () -> s.walker(-1, 0), "no walker below");
         dueThrow(ARGUMENT, () -> s.walker(0, 4), "another what");
@@ -203,7 +159,7 @@ public final class PromiseTests {
 
     private static void steps() {
         at(10);
-        SnowKeeps s = of("places 3;path 0 1;walker 0;keep 2;storm 3 1;");
+        SnowKeeps s = Kit.of("places 3;path 0 1;walker 0;keep 2;storm 3 1;");
         due(1, () -> s.step(0, 1), "a step");
         due(-1, () -> s.step(1, 9), "no walker is told first");
         due(-1, () -> s.step(-1, 0), "no walker below");
@@ -216,7 +172,7 @@ public final class PromiseTests {
         due(2, () -> s.step(0, 0), "no storm");
         due(4, () -> s.count(6), "four steps");
         at(11);
-        SnowKeeps t = walked();
+        SnowKeeps t = Kit.walked();
         due(5, () -> t.storm(0), "none go");
         due(3, () -> t.storm(2), "the two eldest");
         due(1, () -> t.print(0, 0), "the third is the eldest");
@@ -225,13 +181,13 @@ public final class PromiseTests {
         due(0, () -> t.storm(3), "all");
         at(12);
         due(0, () -> t.noon(), "none");
-        SnowKeeps u = walked();
+        SnowKeeps u = Kit.walked();
         due(5, () -> u.noon(), "five");
         due(0, () -> u.count(5), "none is left");
         due(5, () -> u.wolves(), "wolves remember them");
         due(1, () -> u.step(0, 2), "snow goes on");
         at(13);
-        SnowKeeps r = of("places 3;path 0 1;path 1 2;walker 0 beat 1 2 0;walker 2 beat 1;walker 1;");
+        SnowKeeps r = Kit.of("places 3;path 0 1;path 1 2;walker 0 beat 1 2 0;walker 2 beat 1;walker 1;");
         due(2, () -> r.rounds(1), "both step");
         due(1, () -> r.rounds(1), "the second can't");
         due(1, () -> r.walker(1, 0), "where it stays");
@@ -239,7 +195,7 @@ public final class PromiseTests {
         due(1, () -> r.walker(0, 0), "at 1 again");
         dueThrow(ARGUMENT, () -> r.rounds(0), "0");
         dueThrow(ARGUMENT, () -> r.rounds(61), "61");
-        due(40, () -> of("places 2;path 0 1;walker 0 beat 1 0 0;").rounds(60), "60 turns");
+        due(40, () -> Kit.of("places 2;path 0 1;walker 0 beat 1 0 0;").rounds(60), "60 turns");
         at(14);
         due(1, () -> r.beat(0, -1), "four turns of three");
         due(2, () -> r.beat(0, 1), "the second place");
@@ -250,36 +206,36 @@ public final class PromiseTests {
         dueThrow(NO_SUCH, () -> r.beat(3, 9), "no walker");
         at(15);
         due(1, () -> new SnowKeeps().again(0), "nothing moves");
-        SnowKeeps a = of("places 3;path 0 1;path 1 2;walker 0 beat 1 2 1 0;keep 3;storm 4 2;wolves 2;");
+        SnowKeeps a = Kit.of("places 3;path 0 1;path 1 2;walker 0 beat 1 2 1 0;keep 3;storm 4 2;wolves 2;");
         due(4, () -> a.again(0), "a beat of four");
         due(3, () -> a.again(1), "with three prints first");
         due(0, () -> a.count(6), "as if");
-        due(-1, () -> of("places 2;path 0 1;walker 0 beat 1 0 1 0 1 0 1 0;storm 99 1;keep 60;").again(0), "too long");
-        due(-1, () -> of("places 2;path 0 1;walker 0 beat 1 0;storm 61 60;keep 60;").again(1), "122 turns by the storm's number");
-        due(118, () -> of("places 2;path 0 1;walker 0 beat 1 0;storm 59 60;keep 60;").again(0), "118 turns by the storm's number");
-        due(20, () -> of("places 2;path 0 1;walker 0 beat 1 0;").again(1), "20 till the snow is full");
-        due(2, () -> of("places 2;path 0 1;walker 0 beat 1 0;").again(0), "then two");
+        due(-1, () -> Kit.of("places 2;path 0 1;walker 0 beat 1 0 1 0 1 0 1 0;storm 99 1;keep 60;").again(0), "too long");
+        due(-1, () -> Kit.of("places 2;path 0 1;walker 0 beat 1 0;storm 61 60;keep 60;").again(1), "122 turns by the storm's number");
+        due(118, () -> Kit.of("places 2;path 0 1;walker 0 beat 1 0;storm 59 60;keep 60;").again(0), "118 turns by the storm's number");
+        due(20, () -> Kit.of("places 2;path 0 1;walker 0 beat 1 0;").again(1), "20 till the snow is full");
+        due(2, () -> Kit.of("places 2;path 0 1;walker 0 beat 1 0;").again(0), "then two");
         dueThrow(ARGUMENT, () -> a.again(2), "another what");
         dueThrow(ARGUMENT, () -> a.again(-1), "another what below");
     }
 
     private static void toldSteps() {
-        SnowKeeps s = walked();
-        fill(s, 0, 3, 2, 101, 2);
+        SnowKeeps s = Kit.walked();
+        Kit.fill(s, 0, 3, 2, 101, 2);
         at(16);
         due(2, () -> s.judge(0, 0), "the third can't be");
         due(2, () -> s.judge(0, 1), "no path");
         due(5, () -> s.judge(0, 2), "prints");
         due(5, () -> s.judge(0, 3), "ways: 1>2, 2>3, 3>0, 3>2, 0>1");
         due(5, () -> s.count(6), "as if");
-        fill(s, 1, 3, -1);
+        Kit.fill(s, 1, 3, -1);
         due(0, () -> s.judge(1, 0), "below 0");
         due(1, () -> s.judge(1, 1), "below 0: 1");
-        fill(s, 1, 3, 200);
+        Kit.fill(s, 1, 3, 200);
         due(1, () -> s.judge(1, 1), "no walker");
-        fill(s, 1, 3, 4294967298L);
+        Kit.fill(s, 1, 3, 4294967298L);
         due(1, () -> s.judge(1, 1), "far above");
-        fill(s, 1, 3);
+        Kit.fill(s, 1, 3);
         due(-1, () -> s.judge(1, 0), "nothing told");
         due(0, () -> s.judge(1, 1), "no why");
         due(4, () -> s.judge(1, 3), "unlike ways now");
@@ -304,7 +260,7 @@ public final class PromiseTests {
         dueThrow(NO_SUCH, () -> s.perform(4), "no tray");
         dueThrow(STATE, () -> s.perform(2), "missing");
         at(18);
-        SnowKeeps d = of("places 4;path 0 1;path 0 2;path 0 3;walker 0;walker 3;");
+        SnowKeeps d = Kit.of("places 4;path 0 1;path 0 2;path 0 3;walker 0;walker 3;");
         int[] draws = draws(1, 6);
         due(3, () -> d.day(1, 3), "three steps");
         due(3, () -> d.count(6), "counted");
@@ -315,10 +271,10 @@ public final class PromiseTests {
         }
         due(where[0], () -> d.walker(0, 0), "walker 0 by its draws");
         due(where[1], () -> d.walker(1, 0), "walker 1 by its draws");
-        due(0, () -> of("places 2;walker 1;").day(-7, 60), "nowhere to go");
+        due(0, () -> Kit.of("places 2;walker 1;").day(-7, 60), "nowhere to go");
         dueThrow(ARGUMENT, () -> d.day(1, 61), "61 times");
         dueThrow(ARGUMENT, () -> new SnowKeeps().day(1, 0), "0 times ahead of no walkers");
-        dueThrow(STATE, () -> of("places 2;path 0 1;").day(1, 1), "no walkers");
+        dueThrow(STATE, () -> Kit.of("places 2;path 0 1;").day(1, 1), "no walkers");
     }
 
     private static int[] draws(int seed, int many) {
@@ -332,7 +288,7 @@ public final class PromiseTests {
     }
 
     private static void prints() {
-        SnowKeeps s = walked();
+        SnowKeeps s = Kit.walked();
         at(20);
         due(2, () -> s.prints(2, 3), "two");
         due(0, () -> s.prints(3, 2), "none back");
@@ -355,9 +311,9 @@ public final class PromiseTests {
         due(0, () -> s.bare(), "all have prints");
         s.storm(1);
         due(1, () -> s.bare(), "the first is bare");
-        due(15, () -> of(RING).bare(), "all are bare");
+        due(15, () -> Kit.of(Kit.RING).bare(), "all are bare");
         at(24);
-        SnowKeeps t = walked();
+        SnowKeeps t = Kit.walked();
         due(13, () -> t.crossing(0, 1), "0, 2, 3");
         due(15, () -> t.crossing(0, 0), "its own");
         dueThrow(NO_SUCH, () -> t.crossing(0, 2), "no walker");
@@ -366,14 +322,14 @@ public final class PromiseTests {
         due(4, () -> t.fades(2, 3), "the later of two");
         due(1, () -> t.fades(0, 1), "the eldest");
         due(0, () -> t.fades(1, 0), "none");
-        SnowKeeps roomy = walked();
+        SnowKeeps roomy = Kit.walked();
         roomy.keep(8);
         due(4, () -> roomy.fades(0, 1), "three more fit");
         dueThrow(NO_SUCH, () -> t.fades(4, 0), "no place");
         at(26);
         due(4, () -> t.hired(0), "walker 0");
         due(5, () -> t.hired(1), "walker 1");
-        due(0, () -> of(RING).hired(1), "none");
+        due(0, () -> Kit.of(Kit.RING).hired(1), "none");
         dueThrow(NO_SUCH, () -> t.hired(2), "no walker");
         at(27);
         due(3, () -> t.remains(0, 0), "none go");
@@ -387,7 +343,7 @@ public final class PromiseTests {
         due(1, () -> t.hires(0, 4), "4 by 4");
         due(5, () -> t.hires(1, 1), "5 by 1");
         due(1, () -> t.hires(1, 30), "5 by 30");
-        due(0, () -> of(RING).hires(0, 9), "none");
+        due(0, () -> Kit.of(Kit.RING).hires(0, 9), "none");
         dueThrow(ARGUMENT, () -> t.hires(0, 0), "0 each");
         dueThrow(ARGUMENT, () -> t.hires(0, 31), "31 each");
         dueThrow(NO_SUCH, () -> t.hires(2, 0), "no walker first");
@@ -395,7 +351,7 @@ public final class PromiseTests {
 
     private static void wolvesRemember() {
         at(29);
-        SnowKeeps s = of("places 2;path 0 1;walker 0;keep 1;wolves 3;storm 2 1;");
+        SnowKeeps s = Kit.of("places 2;path 0 1;walker 0;keep 1;wolves 3;storm 2 1;");
         due(0, () -> s.wolves(), "none");
         for (int i = 0; i < 2; i++) {
             s.step(0, 1);
@@ -403,7 +359,7 @@ public final class PromiseTests {
         }
         due(3, () -> s.wolves(), "three of four");
         due(0, () -> s.count(5), "the snow keeps none");
-        SnowKeeps many = of("places 2;path 0 1;walker 0 beat 1 0;wolves 99;");
+        SnowKeeps many = Kit.of("places 2;path 0 1;walker 0 beat 1 0;wolves 99;");
         many.rounds(60);
         many.rounds(60);
         due(99, () -> many.wolves(), "99 of 120");
@@ -421,13 +377,13 @@ public final class PromiseTests {
     }
 
     private static void whoFollows() {
-        SnowKeeps s = walked();
+        SnowKeeps s = Kit.walked();
         at(31);
         due(4, () -> s.hound(0, 0), "0>1 1>2 2>3 3>0");
         due(0, () -> s.hound(0, 1), "back at 0");
         due(2, () -> s.hound(2, 0), "the eldest 2>3, then 3>0; 0>1 is elder");
-        due(0, () -> of(RING).hound(3, 0), "none");
-        due(3, () -> of(RING).hound(3, 1), "stays");
+        due(0, () -> Kit.of(Kit.RING).hound(3, 0), "none");
+        due(3, () -> Kit.of(Kit.RING).hound(3, 1), "stays");
         dueThrow(NO_SUCH, () -> s.hound(4, 9), "no place");
         dueThrow(ARGUMENT, () -> s.hound(0, 2), "another what");
         dueThrow(ARGUMENT, () -> s.hound(0, -1), "another what below");
@@ -435,7 +391,7 @@ public final class PromiseTests {
         due(1, () -> s.hunter(0, 0), "nowhere yet");
         due(2, () -> s.hunter(0, 1), "at 1");
         due(1, () -> s.hunter(0, 60), "round and round");
-        due(0, () -> of(RING).hunter(0, 1), "he can't");
+        due(0, () -> Kit.of(Kit.RING).hunter(0, 1), "he can't");
         dueThrow(ARGUMENT, () -> s.hunter(0, 61), "61");
         dueThrow(ARGUMENT, () -> s.hunter(0, -1), "below 0");
         dueThrow(NO_SUCH, () -> s.hunter(4, 61), "no place first");
@@ -446,12 +402,12 @@ public final class PromiseTests {
         due(-1, () -> s.hunts(0, 1), "gone");
         dueThrow(NO_SUCH, () -> s.hunts(0, 4), "no place");
         at(34);
-        SnowKeeps t = of("places 4;path 0 1;path 1 2;path 2 3;path 3 0;walker 0;walker 3;keep 1;");
+        SnowKeeps t = Kit.of("places 4;path 0 1;path 1 2;path 2 3;path 3 0;walker 0;walker 3;keep 1;");
         t.step(1, 2);
         t.step(0, 1);
         due(0, () -> t.meets(2, 2), "at once");
         due(-1, () -> t.meets(0, 3), "the hunter comes to 1, the wolf to 2");
-        SnowKeeps u = of("places 3;path 0 1;path 2 1;walker 0;walker 2;keep 1;");
+        SnowKeeps u = Kit.of("places 3;path 0 1;path 2 1;walker 0;walker 2;keep 1;");
         u.step(1, 1);
         u.step(0, 1);
         due(1, () -> u.meets(0, 2), "the wolf remembers what the snow keeps not");
@@ -459,14 +415,14 @@ public final class PromiseTests {
         dueThrow(NO_SUCH, () -> u.meets(3, 0), "no place");
         dueThrow(NO_SUCH, () -> u.meets(0, 3), "no place either");
         at(35);
-        SnowKeeps b = walked();
+        SnowKeeps b = Kit.walked();
         due(1, () -> b.blur(0, 0, 0), "where it is");
         due(2, () -> b.blur(0, 1, 0), "two places");
         due(1, () -> b.blur(0, 1, 1), "by one step");
         due(2, () -> b.blur(0, 1, 10), "to 2");
         due(-1, () -> b.blur(0, 1, 11), "no second");
-        due(0, () -> of(RING).blur(0, 0, 1), "no step");
-        due(0, () -> of("places 1;walker 0;").blur(0, 3, 0), "a hunter can't go");
+        due(0, () -> Kit.of(Kit.RING).blur(0, 0, 1), "no step");
+        due(0, () -> Kit.of("places 1;walker 0;").blur(0, 3, 0), "a hunter can't go");
         dueThrow(ARGUMENT, () -> b.blur(0, 4, 0), "n");
         dueThrow(ARGUMENT, () -> b.blur(0, -1, 0), "n below 0");
         dueThrow(ARGUMENT, () -> b.blur(0, 1, 13), "what 13");
@@ -477,53 +433,53 @@ public final class PromiseTests {
     }
 
     private static void guides() {
-        SnowKeeps s = of(RING);
+        SnowKeeps s = Kit.of(Kit.RING);
         at(36);
         due(3, () -> s.homes(1, 0), "three of five");
         due(1, () -> s.homes(2, 0), "two guides");
         due(1, () -> s.homes(1, 1), "one other");
         due(0, () -> s.homes(3, 3), "not at all");
-        SnowKeeps wide = of("places 1;keep 60;");
+        SnowKeeps wide = Kit.of("places 1;keep 60;");
         // out d, back: the first print is asked for when d + (d - 1) prints came with it: 2 d - 1 is at most 60
         due(30, () -> wide.homes(1, 0), "thirty of sixty");
-        due(0, () -> of("places 1;keep 3;").homes(4, 0), "four guides, three prints");
-        due(1, () -> of("places 1;keep 4;").homes(4, 0), "four guides, four prints");
+        due(0, () -> Kit.of("places 1;keep 3;").homes(4, 0), "four guides, three prints");
+        due(1, () -> Kit.of("places 1;keep 4;").homes(4, 0), "four guides, four prints");
         due(10, () -> new SnowKeeps().homes(1, 0), "KEEP is 20 without a plain");
         dueThrow(ARGUMENT, () -> s.homes(0, 0), "no guides");
         dueThrow(ARGUMENT, () -> s.homes(5, 0), "five guides");
         dueThrow(ARGUMENT, () -> s.homes(1, -1), "others below 0");
         dueThrow(ARGUMENT, () -> s.homes(1, 10), "ten others");
         at(37);
-        fill(s, 0, 1, 3, 1);
+        Kit.fill(s, 0, 1, 3, 1);
         due(1, () -> s.bargain(0), "one alone, who goes farther");
-        fill(s, 0, 1, 2, 1);
+        Kit.fill(s, 0, 1, 2, 1);
         due(3, () -> s.bargain(0), "both");
-        fill(s, 0, 1, 3, 3);
+        Kit.fill(s, 0, 1, 3, 3);
         due(1, () -> s.bargain(0), "alike: the least as bits");
-        fill(s, 0, 1, 4);
+        Kit.fill(s, 0, 1, 4);
         due(0, () -> s.bargain(0), "none comes home");
-        fill(s, 0, 1, 0, 0, 4, 0);
+        Kit.fill(s, 0, 1, 0, 0, 4, 0);
         due(11, () -> s.bargain(0), "who stays at home is home");
-        fill(s, 0, 1, 30);
+        Kit.fill(s, 0, 1, 30);
         due(0, () -> s.bargain(0), "30 is a number");
-        fill(s, 0, 1, 31);
+        Kit.fill(s, 0, 1, 31);
         dueThrow(ARGUMENT, () -> s.bargain(0), "31");
-        fill(s, 0, 1, 0, -1);
+        Kit.fill(s, 0, 1, 0, -1);
         dueThrow(ARGUMENT, () -> s.bargain(0), "below 0");
-        fill(s, 0, 1);
+        Kit.fill(s, 0, 1);
         dueThrow(ARGUMENT, () -> s.bargain(0), "no numbers");
-        fill(s, 0, 1, 0, 0, 0, 0, 0);
+        Kit.fill(s, 0, 1, 0, 0, 0, 0, 0);
         dueThrow(ARGUMENT, () -> s.bargain(0), "five numbers");
         dueThrow(STATE, () -> s.bargain(1), "missing");
         dueThrow(NO_SUCH, () -> s.bargain(4), "no tray");
         at(38);
-        SnowKeeps t = walked();
+        SnowKeeps t = Kit.walked();
         due(2, () -> t.retrace(0, 0), "the third is gone then");
         due(1, () -> t.retrace(0, 1), "ends at 1");
         due(5, () -> t.count(6), "as if");
-        due(0, () -> of(RING).retrace(1, 0), "none");
-        due(2, () -> of(RING).retrace(1, 1), "stays");
-        SnowKeeps stormy = of("places 2;path 0 1;walker 0;storm 4 2;");
+        due(0, () -> Kit.of(Kit.RING).retrace(1, 0), "none");
+        due(2, () -> Kit.of(Kit.RING).retrace(1, 1), "stays");
+        SnowKeeps stormy = Kit.of("places 2;path 0 1;walker 0;storm 4 2;");
         stormy.step(0, 1);
         stormy.step(0, 0);
         stormy.step(0, 1);
@@ -542,7 +498,7 @@ public final class PromiseTests {
 
     /** A bow: 0>1 1>2 2>0 0>3 3>4 4>0, walked once from 0. */
     private static SnowKeeps bow() {
-        SnowKeeps s = of("places 5;path 0 1;path 1 2;path 2 0;path 0 3;path 3 4;path 4 0;walker 0 beat 1 2 0 3 4 0;keep 30;");
+        SnowKeeps s = Kit.of("places 5;path 0 1;path 1 2;path 2 0;path 0 3;path 3 4;path 4 0;walker 0 beat 1 2 0 3 4 0;keep 30;");
         s.rounds(6);
         return s;
     }
@@ -552,11 +508,11 @@ public final class PromiseTests {
         at(40);
         due(2, () -> s.rows(0), "either loop first");
         due(1, () -> s.rows(1), "1 2 0 3 4 0 1");
-        SnowKeeps ring = walked();
+        SnowKeeps ring = Kit.walked();
         due(0, () -> ring.rows(0), "2>3 twice");
         due(1, () -> ring.rows(2), "from 2");
-        due(1, () -> of(RING).rows(3), "no prints");
-        SnowKeeps star = of("places 8;path 0 1;path 0 2;path 0 3;path 0 4;path 0 5;path 0 6;path 0 7;"
+        due(1, () -> Kit.of(Kit.RING).rows(3), "no prints");
+        SnowKeeps star = Kit.of("places 8;path 0 1;path 0 2;path 0 3;path 0 4;path 0 5;path 0 6;path 0 7;"
             + "walker 0 beat 1 0 2 0 3 0 4 0;walker 0 beat 5 0 6 0 7 0;keep 60;");
         star.rounds(6);
         star.step(0, 4);
@@ -585,7 +541,7 @@ public final class PromiseTests {
         at(42);
         due(31, () -> s.starts(), "anywhere on the bow");
         due(4, () -> ring.starts(), "from 2");
-        due(15, () -> of(RING).starts(), "anywhere without prints");
+        due(15, () -> Kit.of(Kit.RING).starts(), "anywhere without prints");
         due(0, () -> new SnowKeeps().starts(), "without a plain");
         due(-1000, () -> star.starts(), "too many");
         at(43);
@@ -596,14 +552,14 @@ public final class PromiseTests {
         due(-1, () -> s.sure(0, false), "unlike ones last");
         due(2, () -> s.sure(1, true), "1>2 first");
         due(0, () -> s.sure(1, false), "0>1 last");
-        due(-1, () -> of(RING).sure(0, false), "no ways");
+        due(-1, () -> Kit.of(Kit.RING).sure(0, false), "no ways");
         due(-1, () -> star.sure(0, true), "too many");
         dueThrow(NO_SUCH, () -> s.sure(5, true), "no place");
         at(44);
         due(3, () -> ring.two(0, 2), "three pairs");
         due(0, () -> ring.two(0, 0), "none");
-        due(1, () -> of(RING).two(1, 3), "nobody went");
-        SnowKeeps two = of("places 2;path 0 1;walker 0;walker 0;keep 60;");
+        due(1, () -> Kit.of(Kit.RING).two(1, 3), "nobody went");
+        SnowKeeps two = Kit.of("places 2;path 0 1;walker 0;walker 0;keep 60;");
         two.step(0, 1);
         two.step(1, 1);
         due(1, () -> two.two(0, 0), "each one, all alike");
@@ -619,7 +575,7 @@ public final class PromiseTests {
         dueThrow(NO_SUCH, () -> two.two(0, 2), "no place");
         dueThrow(NO_SUCH, () -> two.two(2, 0), "no place either");
         at(45);
-        SnowKeeps c = of(RING);
+        SnowKeeps c = Kit.of(Kit.RING);
         due(1, () -> c.clear(0, 0, true), "the empty row");
         due(16, () -> c.clear(0, 4, false), "sixteen");
         due(14, () -> c.clear(0, 4, true), "two are alike");
@@ -630,14 +586,14 @@ public final class PromiseTests {
     }
 
     private static void signs() {
-        SnowKeeps s = of(RING);
+        SnowKeeps s = Kit.of(Kit.RING);
         at(46);
         due(1, () -> s.signs(0, 0), "the bare snow");
         due(3, () -> s.signs(0, 1), "two more");
         due(7, () -> s.signs(0, 2), "four more");
-        SnowKeeps one = of("places 4;path 0 1;path 1 2;path 2 3;path 3 0;keep 1;");
+        SnowKeeps one = Kit.of("places 4;path 0 1;path 1 2;path 2 3;path 3 0;keep 1;");
         due(9, () -> one.signs(0, 6), "each way alone, and none");
-        SnowKeeps big = of("places 6;path 0 1;path 0 2;path 0 3;path 0 4;path 0 5;path 1 2;path 1 3;path 1 4;path 1 5;"
+        SnowKeeps big = Kit.of("places 6;path 0 1;path 0 2;path 0 3;path 0 4;path 0 5;path 1 2;path 1 3;path 1 4;path 1 5;"
             + "path 2 3;path 2 4;path 2 5;path 3 4;path 3 5;path 4 5;keep 60;");
         due(-1000, () -> big.signs(0, 6), "too many");
         due(1 + 5 + 25 + 125 - 5, () -> big.signs(0, 3), "0>k>0>k leaves what 0>k>0 leaves");
@@ -645,36 +601,36 @@ public final class PromiseTests {
         dueThrow(ARGUMENT, () -> s.signs(0, -1), "below 0");
         dueThrow(NO_SUCH, () -> s.signs(4, 7), "no place first");
         at(47);
-        fill(s, 0, 0, 2, 0, 2);
+        Kit.fill(s, 0, 0, 2, 0, 2);
         due(2, () -> s.writes(0, 0), "0>1 1>2");
         due(-1, () -> s.writes(1, 0), "not from 1");
-        fill(s, 1, 0, 0, 1, 2);
+        Kit.fill(s, 1, 0, 0, 1, 2);
         due(4, () -> s.writes(0, 1), "0>1>0>1>2");
-        fill(s, 2, 0);
+        Kit.fill(s, 2, 0);
         due(0, () -> s.writes(2, 2), "no ways");
     }
 
     private static void moreSigns() {
-        SnowKeeps s = of(RING);
-        fill(s, 0, 0, 2, 0, 2);
-        fill(s, 2, 0);
+        SnowKeeps s = Kit.of(Kit.RING);
+        Kit.fill(s, 0, 0, 2, 0, 2);
+        Kit.fill(s, 2, 0);
         at(47);
         dueThrow(NO_SUCH, () -> s.writes(4, 0), "no place");
         dueThrow(NO_SUCH, () -> s.writes(4, 3), "no place ahead of missing");
         dueThrow(NO_SUCH, () -> s.writes(0, 4), "no tray");
         dueThrow(STATE, () -> s.writes(0, 3), "missing");
-        SnowKeeps full = of(RING);
-        fill(full, 0, 3, 0, 1, 2, 3, 4, 5, 6, 7, 7, 0);
+        SnowKeeps full = Kit.of(Kit.RING);
+        Kit.fill(full, 0, 3, 0, 1, 2, 3, 4, 5, 6, 7, 7, 0);
         due(8, () -> { full.keep(8); return full.writes(0, 0); }, "eight unlike ones in eight steps");
         due(-1, () -> { full.keep(7); return full.writes(0, 0); }, "KEEP is too small");
-        fill(full, 1, 3, 8);
+        Kit.fill(full, 1, 3, 8);
         dueThrow(ARGUMENT, () -> full.writes(0, 1), "no way");
-        fill(full, 1, 3, -1);
+        Kit.fill(full, 1, 3, -1);
         dueThrow(ARGUMENT, () -> full.writes(0, 1), "no way below");
-        fill(full, 1, 3, 4294967296L);
+        Kit.fill(full, 1, 3, 4294967296L);
         dueThrow(ARGUMENT, () -> full.writes(0, 1), "far above");
-        SnowKeeps nine = of("places 6;path 0 1;path 1 2;path 2 3;path 3 4;path 4 5;");
-        fill(nine, 0, 0, 0, 1, 2, 3, 4, 5, 6, 7, 8);
+        SnowKeeps nine = Kit.of("places 6;path 0 1;path 1 2;path 2 3;path 3 4;path 4 5;");
+        Kit.fill(nine, 0, 0, 0, 1, 2, 3, 4, 5, 6, 7, 8);
         dueThrow(ARGUMENT, () -> nine.writes(0, 0), "nine unlike ones");
         at(48);
         due(1, () -> s.pens(0), "from 0");
@@ -688,10 +644,10 @@ public final class PromiseTests {
         due(4, () -> s.patrol(0), "round the ring or back");
         due(0, () -> s.patrol(2), "no ways");
         due(8, () -> full.patrol(0), "all ways");
-        SnowKeeps apart = of("places 4;path 0 1;path 2 3;");
-        fill(apart, 0, 0, 0, 2);
+        SnowKeeps apart = Kit.of("places 4;path 0 1;path 2 3;");
+        Kit.fill(apart, 0, 0, 0, 2);
         due(-1, () -> apart.patrol(0), "apart");
-        fill(apart, 1, 0, 3);
+        Kit.fill(apart, 1, 0, 3);
         due(2, () -> apart.patrol(1), "there and back");
         dueThrow(NO_SUCH, () -> s.patrol(4), "no tray");
         dueThrow(STATE, () -> s.patrol(3), "missing");
@@ -716,25 +672,25 @@ public final class PromiseTests {
         dueThrow(STATE, () -> s.crowd(3), "missing");
         dueThrow(ARGUMENT, () -> nine.crowd(0), "nine unlike ones");
         at(52);
-        SnowKeeps w = walked();
-        fill(w, 0, 0, 2, 4);
+        SnowKeeps w = Kit.walked();
+        Kit.fill(w, 0, 0, 2, 4);
         due(3, () -> w.lasts(0), "1>2 is the third");
-        fill(w, 0, 0, 2, 5);
+        Kit.fill(w, 0, 0, 2, 5);
         due(0, () -> w.lasts(0), "3>2 has none");
-        fill(w, 0, 0);
+        Kit.fill(w, 0, 0);
         due(-1, () -> w.lasts(0), "no ways");
         dueThrow(NO_SUCH, () -> w.lasts(4), "no tray");
         dueThrow(STATE, () -> w.lasts(3), "missing");
         dueThrow(ARGUMENT, () -> nine.lasts(0), "nine unlike ones");
         at(53);
-        fill(w, 1, 0, 9, 9, 9, 9, 2);
+        Kit.fill(w, 1, 0, 9, 9, 9, 9, 2);
         due(4, () -> w.reads(1), "four ways");
     }
 
     /** What reads() put there is seen by write-free calls: the sign of a tray read back lasts as its ways do. */
     private static void readBack() {
         at(53);
-        SnowKeeps w = walked();
+        SnowKeeps w = Kit.walked();
         w.tray(1, 0, 2);
         due(2, () -> w.reads(1), "two places");
         // ways 0 and 2 came: 0>1 is the eldest
@@ -746,7 +702,7 @@ public final class PromiseTests {
         w.tray(1, 0, 0);
         due(0, () -> w.reads(1), "no places");
         w.noon();
-        fill(w, 1, 0, 4);
+        Kit.fill(w, 1, 0, 4);
         due(0, () -> w.reads(1), "no prints");
         due(4, () -> w.pens(1), "its number stays");
         dueThrow(NO_SUCH, () -> w.reads(4), "no tray");
@@ -755,7 +711,7 @@ public final class PromiseTests {
 
     private static void traysAndImages() {
         at(54);
-        SnowKeeps s = walked();
+        SnowKeeps s = Kit.walked();
         s.tray(0, 0, 30);
         dueThrow(NO_SUCH, () -> { s.tray(4, 9, 0); return 0; }, "no tray");
         dueThrow(NO_SUCH, () -> { s.tray(-1, 0, 0); return 0; }, "no tray below");
@@ -764,7 +720,7 @@ public final class PromiseTests {
         dueThrow(ARGUMENT, () -> { s.tray(0, 0, 31); return 0; }, "31");
         dueThrow(ARGUMENT, () -> { s.tray(0, 0, -1); return 0; }, "below 0");
         due(5, () -> s.write(0, 29, 5), "a throw changed nothing");
-        fill(s, 0, 0, 4);
+        Kit.fill(s, 0, 0, 4);
         s.tray(0, 0, 1);
         due(1, () -> s.pens(0), "zeros again: way 0 from 0");
         at(55);
@@ -790,7 +746,7 @@ public final class PromiseTests {
         dueThrow(NO_SUCH, () -> { s.image(3); return 0; }, "no image");
         dueThrow(NO_SUCH, () -> { s.image(-1); return 0; }, "no image below");
         at(57);
-        feed(s, "places 2;");
+        Kit.feed(s, "places 2;");
         s.restore(0);
         due(5, () -> s.count(6), "as at first");
         due(20, () -> s.count(7), "but the tape");
@@ -811,7 +767,7 @@ public final class PromiseTests {
         dueThrow(STATE, () -> { s.restore(1); return 0; }, "none was made");
         dueThrow(NO_SUCH, () -> { s.restore(3); return 0; }, "no image");
         at(58);
-        SnowKeeps c = of("places 3;path 0 1;path 2 1;walker 2 beat 1 2;storm 4 2;wolves 7;keep 9;");
+        SnowKeeps c = Kit.of("places 3;path 0 1;path 2 1;walker 2 beat 1 2;storm 4 2;wolves 7;keep 9;");
         c.rounds(3);
         c.feed(0, 0, 0, 0, 0);
         int[] want = {7, 3, 2, 1, 9, 3, 3, 20, 4, 2, 7};
@@ -828,9 +784,9 @@ public final class PromiseTests {
     /** Calls that are the first of their kind on an object, or come behind others that might leave something. */
     private static void freshAndUsed() {
         at(3);
-        SnowKeeps again = of("places 2;path 0 1;walker 0 beat 1 0;wolves 5;storm 2 1;");
+        SnowKeeps again = Kit.of("places 2;path 0 1;walker 0 beat 1 0;wolves 5;storm 2 1;");
         again.rounds(3);
-        tell(again, "places 2;path 0 1;walker 1 beat 0 1;");
+        Kit.tell(again, "places 2;path 0 1;walker 1 beat 0 1;");
         due(0, () -> again.walker(0, 1), "its steps begin anew");
         due(0, () -> again.beat(0, -1), "its beat begins anew");
         due(1, () -> again.walker(0, 0), "it stands where the new text tells");
@@ -838,12 +794,12 @@ public final class PromiseTests {
         due(0, () -> again.count(8), "no storm without a line");
         due(0, () -> again.count(9), "no storm takes none");
         at(14);
-        SnowKeeps b = of("places 2;path 0 1;walker 0 beat 1 0;");
+        SnowKeeps b = Kit.of("places 2;path 0 1;walker 0 beat 1 0;");
         due(1, () -> b.beat(0, 0), "the first");
         due(0, () -> b.beat(0, 1), "the last");
         at(19);
-        SnowKeeps told = walked();
-        fill(told, 0, 0, 2);
+        SnowKeeps told = Kit.walked();
+        Kit.fill(told, 0, 0, 2);
         due(1, () -> told.behind(0, 3, 2), "asked ahead of all else");
         at(21);
         dueThrow(NO_SUCH, () -> told.age(4, 0), "no place");
@@ -855,13 +811,13 @@ public final class PromiseTests {
         at(33);
         dueThrow(NO_SUCH, () -> told.hunts(4, 0), "no place either");
         at(43);
-        due(4, () -> walked().sure(2, false), "last, asked first");
-        due(4, () -> walked().sure(2, true), "first, asked first");
+        due(4, () -> Kit.walked().sure(2, false), "last, asked first");
+        due(4, () -> Kit.walked().sure(2, true), "first, asked first");
         at(49);
-        SnowKeeps sign = of(RING);
-        fill(sign, 0, 0, 0, 4);
+        SnowKeeps sign = Kit.of(Kit.RING);
+        Kit.fill(sign, 0, 0, 0, 4);
         due(4, () -> sign.patrol(0), "round the ring");
-        fill(sign, 0, 0);
+        Kit.fill(sign, 0, 0);
         due(0, () -> sign.patrol(0), "no ways behind some");
         due(60, () -> sign.crowd(0), "likewise");
     }

@@ -15,18 +15,7 @@ public final class TextTests {
 
     private static void due(String text, int answer, int place) {
         SnowKeeps s = new SnowKeeps();
-        byte[] bytes = new byte[(text.length() + 19) / 20 * 20];
-        for (int i = 0; i < bytes.length; i++) {
-            bytes[i] = i < text.length() ? (byte) text.charAt(i) : 32;
-        }
-        for (int i = 0; i < bytes.length; i += 20) {
-            int[] v = new int[5];
-            for (int j = 0; j < 20; j++) {
-                v[j / 4] = v[j / 4] << 8 | bytes[i + j] & 255;
-            }
-            s.feed(v[0], v[1], v[2], v[3], v[4]);
-        }
-        int got = s.plain(text.length());
+        int got = Kit.tell(s, text);
         if (got != answer || s.fault(1) != place || s.fault(0) != (answer < 0 ? -10 - answer : 0)) {
             wrong++;
             System.out.println(got + " at " + s.fault(1) + ", due is " + answer + " at " + place + ": " + text);
@@ -85,15 +74,8 @@ public final class TextTests {
         due("places 1;storm 1;", -12, 16);
         due("places 1;wolves 0;", -13, 16);
         due("places 1;wolves 100;", -13, 16);
-        StringBuilder paths = new StringBuilder("places 7;");
-        int told = 0;
-        for (int a = 0; a < 7; a++) {
-            for (int b = a + 1; b < 7 && told < 16; b++) {
-                paths.append("path ").append(a).append(' ').append(b).append(';');
-                told++;
-            }
-        }
-        due(paths.toString(), 17, -1);
+        String paths = Kit.sixteenPaths();
+        due(paths, 17, -1);
         due(paths + "path", -14, paths.length());
         due(paths + "pathx", -12, paths.length());
     }

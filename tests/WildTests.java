@@ -23,16 +23,6 @@ public final class WildTests {
         return (int) ((x >>> 33) % n);
     }
 
-    private static void feed(SnowKeeps s, String text) {
-        for (int i = 0; i < text.length(); i += 20) {
-            int[] v = new int[5];
-            for (int j = 0; j < 20; j++) {
-                v[j / 4] = v[j / 4] << 8 | (i + j < text.length() ? text.charAt(i + j) : 32);
-            }
-            s.feed(v[0], v[1], v[2], v[3], v[4]);
-        }
-    }
-
     private static Object wildOf(Class<?> type) {
         if (type == boolean.class) return draw(2) == 0;
         if (type == long.class) return draw(8) == 0 ? x : LONG_EDGES[draw(LONG_EDGES.length)];
@@ -79,7 +69,7 @@ public final class WildTests {
             SnowKeeps s = new SnowKeeps();
             if (run % 10 != 0) {
                 String text = TEXTS[run % TEXTS.length];
-                feed(s, text);
+                Kit.feed(s, text);
                 s.plain(text.length());
                 s.rounds(1 + draw(60));
             }
