@@ -274,6 +274,12 @@ final class SignEdges {
             Kit.fill(s, 0, 0, 6);
             Edge.is(5, s.lasts(0));
         });
+        Edge.edge(Edge.TERMS, sign, "way 31", () -> {
+            SnowKeeps s = told(Kit.sixteenPaths() + "walker 4;", 31);
+            Edge.is(0, s.lasts(0));
+            Kit.go(s, 0, 3);
+            Edge.is(20, s.lasts(0));
+        });
         Edge.edge(Edge.TERMS, sign, "60 steps of KEEP of 60", () -> {
             SnowKeeps s = Kit.toAndFro(keeping(60, Kit.PAIR, 0), 1);
             Edge.is(60, s.lasts(0));

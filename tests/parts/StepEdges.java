@@ -549,6 +549,20 @@ final class StepEdges {
             Kit.go(other, 0, 1, 0, 0);
             Edge.is(2, other.again(1));
         });
+        Edge.edge(15, till, "whose the last print is, and along which way", () -> {
+            for (int w = 1; w < 4; w++) {
+                SnowKeeps s = Kit.go(Kit.of(Kit.PAIR + "walker 0;walker 0;walker 0;keep 1;"), w, 1);
+                Edge.is(2, s.again(0));
+                Edge.is(1, s.again(1));
+            }
+        });
+        Edge.edge(15, till, "fuller snow asked ahead leaves nothing", () -> {
+            SnowKeeps s = Kit.of(Kit.PAIR + "keep 60;");
+            Edge.is(60, s.again(1));
+            s.keep(1);
+            Edge.is(2, s.again(0));
+            Edge.is(1, s.again(1));
+        });
         Edge.edge(15, till, "what is next, though all stand still", () -> {
             Edge.is(3, Kit.of("places 2;walker 0 beat 0 1 1;").again(0));
             Edge.is(0, Kit.of("places 2;walker 0 beat 0 1 1;").again(1));
@@ -742,9 +756,9 @@ final class StepEdges {
         String as = "PRINTS from a PLACE to another one behind TOLD STEPS, as if made (till one can't be).";
         Edge.edge(19, as, "nothing told", () -> Edge.is(2, walkedTold(0).behind(0, 2, 3)));
         Edge.edge(19, as, "till one can't be", () -> {
-            SnowKeeps s = walkedTold(3, 2, 0, 3);
+            SnowKeeps s = walkedTold(3, 2, 0, 1);
             Edge.is(1, s.behind(0, 3, 2));
-            Edge.is(2, s.behind(0, 2, 3));
+            Edge.is(0, s.behind(0, 2, 1));
         });
         Edge.edge(19, as, "no path between both, the same place", () -> {
             SnowKeeps s = walkedTold(3, 2);

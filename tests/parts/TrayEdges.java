@@ -263,6 +263,7 @@ final class TrayEdges {
             s.rounds(40);
             s.image(2);
             s.rounds(9);
+            Kit.go(s, 0, (s.walker(0, 0) + 1) % 4);
             s.restore(2);
             Edge.same(Kit.lookAtSnow(as), Kit.lookAtSnow(s));
         });
