@@ -2,6 +2,7 @@ import java.io.IOException;
 import java.nio.file.Files;
 import java.nio.file.Path;
 import java.util.ArrayList;
+import java.util.Arrays;
 import java.util.List;
 import java.util.Map;
 import java.util.NoSuchElementException;
@@ -32,7 +33,9 @@ final class Edge {
     static final Class<?> STATE = IllegalStateException.class;
     static final Class<?> BOUNDS = IndexOutOfBoundsException.class;
 
+    private static final Path DOCUMENT = Path.of("../shared/DOC.md");
     private static final int PROMISES = 58;
+    private static final int NONE_YET = -1;
     /** What tells a boundary: an exception, a lack, bounds, what is too much, what is at first or at the end. */
     private static final Pattern BOUNDARY = Pattern.compile("Exception: |NONE|SPENT|\\d+ to \\d+|at most|more than|MISSING"
         + "|at first|without|fresh|\\bempty|nothing|\\btill\\b|as long as|\\bbelow 0|likewise|can't be|beyond|\\(0[ :)]|can be"
@@ -46,9 +49,14 @@ final class Edge {
 
     private Edge() { }
 
+    /** Where the document is not at hand, the cases are held against their answers alone. */
     static void readDocument() throws IOException {
+        if (!Files.exists(DOCUMENT)) {
+            System.out.println("no " + DOCUMENT + " to look for the words in");
+            return;
+        }
         int section = NONE_YET;
-        for (String line : Files.readAllLines(Path.of("../shared/DOC.md"))) {
+        for (String line : Files.readAllLines(DOCUMENT)) {
             if (line.startsWith("## ")) {
                 section = sectionOf(line);
             } else if (section != NONE_YET) {
@@ -57,8 +65,6 @@ final class Edge {
         }
         SECTIONS.replaceAll((k, text) -> text.replaceAll("\\s+", " "));
     }
-
-    private static final int NONE_YET = -1;
 
     private static int sectionOf(String head) {
         Matcher m = Pattern.compile("## Promise (\\d+):.*").matcher(head);
@@ -71,7 +77,7 @@ final class Edge {
     static void edge(int promise, String words, String name, Case body) {
         cases++;
         at = (promise == TERMS ? "Terms" : "promise " + promise) + ", \"" + words + "\", " + name;
-        if (!SECTIONS.getOrDefault(promise, "").contains(words)) {
+        if (!SECTIONS.isEmpty() && !SECTIONS.getOrDefault(promise, "").contains(words)) {
             miss("the document does not say so");
         }
         QUOTED.computeIfAbsent(promise, k -> new ArrayList<>()).add(words);
@@ -128,7 +134,7 @@ final class Edge {
             boolean[] told = new boolean[text.length()];
             for (String words : QUOTED.getOrDefault(promise, List.of())) {
                 for (int from = text.indexOf(words); from >= 0; from = text.indexOf(words, from + 1)) {
-                    java.util.Arrays.fill(told, from, from + words.length(), true);
+                    Arrays.fill(told, from, from + words.length(), true);
                 }
             }
             if (!QUOTED.containsKey(promise)) {

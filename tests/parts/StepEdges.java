@@ -1,3 +1,7 @@
+import java.util.ArrayList;
+import java.util.Arrays;
+import java.util.List;
+
 /** Boundary cases of paths, walkers, prints and steps: promises 5 to 19, 58, and what "Terms" says of them. */
 final class StepEdges {
     private StepEdges() { }
@@ -304,7 +308,7 @@ final class StepEdges {
             text.append(';');
         }
         SnowKeeps s = Kit.of(text.toString());
-        java.util.List<int[]> all = new java.util.ArrayList<>();
+        List<int[]> all = new ArrayList<>();
         for (int turn = 0; turn < 50; turn++) {
             for (int w = 0; w < 4; w++) {
                 int to = beats[w][turn % beats[w].length];
@@ -831,7 +835,7 @@ final class StepEdges {
         int[][] near = new int[told.length][];
         for (int p = 0; p < told.length; p++) {
             near[p] = told[p].clone();
-            java.util.Arrays.sort(near[p]);
+            Arrays.sort(near[p]);
         }
         int[] seeds = {0, 1, -1, 12345, Integer.MAX_VALUE, Integer.MIN_VALUE, 987654321, -77777777};
         for (int seed : seeds) {
