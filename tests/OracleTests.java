@@ -37,6 +37,7 @@ public final class OracleTests {
         int every;
         int takes;
         int steps;
+        String text = "no plain";
         List<int[]> paths = new ArrayList<>();
         List<Integer> at = new ArrayList<>();
         List<Integer> made = new ArrayList<>();
@@ -54,6 +55,7 @@ public final class OracleTests {
             m.every = every;
             m.takes = takes;
             m.steps = steps;
+            m.text = text;
             m.paths = paths;
             m.beats = beats;
             m.at = new ArrayList<>(at);
@@ -637,7 +639,7 @@ public final class OracleTests {
         }
         due("bargain " + Arrays.toString(far), s.bargain(1), m.bargain(far), told);
         for (int p = 0; p < m.places; p++) {
-            int n = draw(5);
+            int n = draw(m.paths.size() > 8 ? 5 : 6);
             due("clear " + p + " " + n, s.clear(p, n, false), m.clear(p, n, false), told);
             due("clear only " + p + " " + n, s.clear(p, n, true), m.clear(p, n, true), told);
             n = draw(7);
@@ -649,7 +651,7 @@ public final class OracleTests {
     private static void compareSign(SnowKeeps s, Model m, String told) {
         if (m.paths.isEmpty()) return;
         TreeSet<Integer> sign = new TreeSet<>();
-        int many = draw(6);
+        int many = draw(4) == 0 ? 6 + draw(12) : draw(6);
         s.tray(2, draw(4), many);
         int start = draw(m.places);
         int at = start;
@@ -666,6 +668,11 @@ public final class OracleTests {
             }
             sign.add(way);
             s.write(2, i, way);
+        }
+        if (sign.size() > 8) {
+            refuses("patrol " + sign, () -> s.patrol(2), told);
+            refuses("lasts " + sign, () -> s.lasts(2), told);
+            return;
         }
         int pens = 0;
         for (int p = 0; p < m.places; p++) {
@@ -686,6 +693,14 @@ public final class OracleTests {
         int places = draw(12);
         s.tray(2, draw(4), places);
         due("reads", s.reads(2), Math.min(places, read.size()), told);
+    }
+
+    private static void refuses(String call, java.util.function.IntSupplier made, String told) {
+        try {
+            due(call + ", which is refused,", made.getAsInt(), Long.MIN_VALUE, told);
+        } catch (IllegalArgumentException e) {
+            return;
+        }
     }
 
     private static void compareRows(SnowKeeps s, Model m, String told) {
@@ -774,20 +789,52 @@ public final class OracleTests {
         }
     }
 
-    private static void run(int number) {
-        SnowKeeps s = new SnowKeeps();
+    /** Another plain on the same object, or a text with a fault, behind which all but the fault stays. */
+    private static Model tell(SnowKeeps s, Model before, int number, String how) {
+        if (how.equals("fault")) {
+            String text = "places 3;path 0 1;walker 0;keep 1;path 1 1;";
+            Kit.feed(s, text);
+            due("plain with a fault", s.plain(text.length()), -13, text);
+            due("fault(1)", s.fault(1), text.length() - 2, text);
+            return before;
+        }
         Model m = new Model();
         String text = randomText(m, number % 3 == 0 ? 60 : 22);
-        String told = number + ": " + text.replace('\n', ' ');
+        while (text.length() > 600) {
+            m = new Model();
+            text = randomText(m, 22);
+        }
         Kit.feed(s, text);
-        due("plain", s.plain(text.length()), m.lines, told);
-        due("fault(0)", s.fault(0), 0, told);
+        due("plain", s.plain(text.length()), m.lines, text);
+        due("fault(0)", s.fault(0), 0, text);
+        m.text = number + ": " + text.replace('\n', ' ');
+        return m;
+    }
+
+    /** What is as the text told it. */
+    private static void comparePlain(SnowKeeps s, Model m) {
+        int[] want = {m.lines, m.places, m.paths.size(), m.at.size(), m.keep, m.prints.size(), m.steps, 0, m.every, m.takes, m.wolves};
+        for (int what = 0; what < want.length; what++) {
+            due("count(" + what + ")", s.count(what), want[what], m.text);
+        }
+        for (int k = 0; k < m.paths.size(); k++) {
+            due("path 0", s.path(k, 0), m.paths.get(k)[0], m.text);
+            due("path 1", s.path(k, 1), m.paths.get(k)[1], m.text);
+        }
+        for (int w = 0; w < m.at.size(); w++) {
+            for (int k = 0; k < m.beats.get(w).size(); k++) due("beat", s.beat(w, k), m.beats.get(w).get(k), m.text);
+        }
+    }
+
+    private static void run(int number) {
+        SnowKeeps s = new SnowKeeps();
+        Model m = tell(s, new Model(), number, "plain");
         Model[] images = new Model[3];
         for (int i = 0; i < 12; i++) {
-            change(s, m, told);
-            compare(s, m, told);
-            compareRows(s, m, told);
-            if (i % 6 == 5) compareDear(s, m, told);
+            change(s, m, m.text);
+            compare(s, m, m.text);
+            compareRows(s, m, m.text);
+            if (i % 6 == 5) compareDear(s, m, m.text);
             int slot = draw(3);
             if (draw(3) == 0) {
                 s.image(slot);
@@ -795,9 +842,12 @@ public final class OracleTests {
             } else if (draw(3) == 0 && images[slot] != null) {
                 s.restore(slot);
                 m = images[slot].copy();
+            } else if (draw(6) == 0) {
+                m = tell(s, m, number, draw(2) == 0 ? "fault" : "plain");
             }
+            comparePlain(s, m);
         }
-        compare(s, m, told);
+        compare(s, m, m.text);
     }
 
     public static void main(String[] args) {
